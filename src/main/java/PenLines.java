@@ -683,14 +683,14 @@ public final class PenLines {
     /** COUNTS of pairs and forms, each in a slot, and what untaught teachings put back. */
     private static final class Counts {
         private static final int PAIRS = LETTERS * LETTERS;
-        // A teaching raises the forms and pairs of one word; any other call raises one count.
-        private static final int UNDOS = TEACHINGS * (2 * WORD_LETTERS - 1) + CALLS;
+        // A teaching raises fewer than two counts for each call that spelled its word.
+        private static final int UNDOS = 2 * CALLS;
 
         // The pairs have the first slots; behind them the forms, as they were first told.
         final int[] counts = new int[PAIRS + CALLS];
-        private final int[] formLetters = new int[CALLS];
-        private final int[] formRows = new int[CALLS];
-        private int forms = 0;
+        final int[] formLetters = new int[CALLS];
+        final int[] formRows = new int[CALLS];
+        int forms = 0;
 
         private final int[] undoSlots = new int[UNDOS];
         private final int[] undoCounts = new int[UNDOS];
@@ -871,7 +871,7 @@ public final class PenLines {
             toSave = Math.max(0, pieces - WORD_LETTERS);
             held[WHOLE] = 0;
             for (int at = pieces - 1; at >= 0; at--) {
-                Arrays.fill(held, heap(at, 0, 0), heap(at, SAVINGS - 1, LETTERS - 1) + 1, 0);
+                clear(heap(at, 0, 0));
                 for (int row = 1; row <= LONGEST_ROW && at + row <= pieces; row++) {
                     for (int letter = 0; letter < LETTERS; letter++) {
                         int cost = fits.cost(at, row, letter);
@@ -886,6 +886,12 @@ public final class PenLines {
 
         private static int heap(int at, int saved, int letter) {
             return ((at % PLACES) * SAVINGS + saved) * LETTERS + letter;
+        }
+
+        private void clear(int first) {
+            for (int heap = first; heap < first + SAVINGS * LETTERS; heap++) {
+                held[heap] = 0;
+            }
         }
 
         private void extend(Counts counts, int at, int row, int letter, int cost) {

@@ -9,6 +9,7 @@ public final class InkPromises {
         promise6Pieces();
         promise7();
         promise8();
+        fortyInks();
         promise9();
         dotsBelong();
         promise10();
@@ -90,6 +91,24 @@ public final class InkPromises {
                 x.ink(0, LEAST), x.ink(0, MOST));
     }
 
+    private static void fortyInks() {
+        PenLines x = new PenLines();
+        x.gap(1);
+        x.sheet(0, 1, 80);
+        for (int k = 0; k < 40; k++) {
+            x.set(0, 2 * k, 50 * k);
+            x.set(0, 2 * k + 1, k % 12);
+        }
+        C.due("8: forty inks", x.line(0, 0, 40), 40);
+        C.due("8: the last one", x.ink(39, 0), 1);
+        C.due("8: its place", x.ink(39, 1), 39);
+        C.due("8: its piece", x.piece(39, 0, 0), 1950);
+        C.due("8: its shape", x.piece(39, 0, 1), 3);
+        C.due("8: no more", x.ink(40, 0), BAD);
+        x.line(0, 0, 2);
+        C.due("8: two of them", x.ink(2, 0), BAD);
+    }
+
     private static void promise9() {
         PenLines x = new PenLines();
         C.due("9: no ink yet", x.piece(0, 0, 0), BAD);
@@ -129,6 +148,10 @@ public final class InkPromises {
         Checks.write(x, 10, 1, 20, 1, 10, 2, 11, DOT);
         C.due("ink: of the same x the first", x.piece(0, 0, 2), 1);
         C.due("ink: not the later", x.piece(0, 2, 2), 0);
+        x.gap(1);
+        Checks.write(x, 10, 1, 12, 1, 12, DOT);
+        C.due("ink: the first ink, though a piece of the next is nearer", x.piece(0, 0, 2), 1);
+        C.due("ink: so the next has none", x.ink(1, 2), 0);
         Checks.write(x, 12, DOT, 10, 1);
         C.due("ink: a dot may come ahead of its ink", x.piece(0, 0, 2), 1);
     }

@@ -17,6 +17,7 @@ public final class ReadingPromises {
         lengths();
         thirteenPieces();
         fourteenPieces();
+        oneAfterAnother();
         promise19();
         promise20();
         promise20Rows();
@@ -24,6 +25,7 @@ public final class ReadingPromises {
         promise20Full();
         promise21();
         promise21Told();
+        promise21Long();
         C.end("ReadingPromises");
     }
 
@@ -258,6 +260,29 @@ public final class ReadingPromises {
                 "18 aaaaaaaaacaa", "18 aaaaaaaacaaa");
     }
 
+    /** Nothing of an ink that was read ahead comes into another one, of whatever lengths. */
+    private static void oneAfterAnother() {
+        for (int letter = 0; letter < 26; letter++) {
+            for (int n = 14; n > 0; n -= 3) {
+                PenLines x = new PenLines();
+                x.form(letter, 1, 0, 0, 0, 9);
+                x.form(letter, 3, 0, 0, 0, 99);
+                x.form(4, 1, 1, 0, 0, 1);
+                x.form(4, 3, 1, 1, 1, 1);
+                Checks.writeShapes(x, new int[14]);
+                C.due("14 pieces of " + letter, x.open(0, 0, 0), letter);
+                int[] others = new int[n];
+                java.util.Arrays.fill(others, 1);
+                Checks.writeShapes(x, others);
+                for (int i = 0; i < 5; i++) {
+                    for (int k = 0; k < Math.max(0, x.open(0, i, -2)); k++) {
+                        C.due("then " + n + " others", x.open(0, i, k), 4);
+                    }
+                }
+            }
+        }
+    }
+
     private static void promise19() {
         PenLines x = new PenLines();
         C.due("19: the empty word", x.find(0), STATE);
@@ -286,6 +311,13 @@ public final class ReadingPromises {
         Checks.spell(x, A);
         C.due("19: the sixth is not told", x.find(0), 2);
         C.due("19: nor anywhere else", x.find(1), NONE);
+        x.wipe();
+        Checks.write(x, 0, 1, 100, 1);
+        Checks.spell(x, A);
+        C.due("19: in a line of two inks", x.find(1), 1);
+        Checks.write(x, 0, 1);
+        C.due("19: in a line of one ink", x.find(0), 0);
+        C.due("19: nothing of the line ahead", x.find(1), NONE);
         x.wipe();
         Checks.put(x, 20);
         Checks.spell(x, 20);
@@ -469,5 +501,21 @@ public final class ReadingPromises {
         x.unteach();
         C.due("21: stays", x.seen(A, 1, 0, 0, 0), 2);
         C.opens("21: a form with no count spells nothing", x, 0, "4 a");
+    }
+
+    private static void promise21Long() {
+        PenLines x = new PenLines();
+        x.sheet(0, 0, 24);
+        x.line(0, 0, 12);
+        x.form(A, 1, 0, 0, 0, 1);
+        for (int k = 0; k < 33; k++) {
+            Checks.spell(x, A, A, A, A, A, A, A, A, A, A, A, A);
+            C.due("21: twelve letters", x.teach(0), 12);
+        }
+        for (int k = 32; k >= 0; k--) {
+            C.due("21: long words, left", x.unteach(), k);
+            C.due("21: long words, forms", x.seen(A, 1, 0, 0, 0), 1 + 12 * k);
+        }
+        C.due("21: long words, pairs", x.pair(A, A, 1), 1);
     }
 }

@@ -7,6 +7,7 @@ public final class WordPromises {
     public static void main(String[] args) {
         promise11();
         promise12();
+        promise12Apart();
         promise13();
         promise14();
         promise15();
@@ -51,6 +52,32 @@ public final class WordPromises {
                 x.seen(0, 1, 12, 0, 0), x.seen(0, 2, 0, 12, 0), x.seen(0, 3, 0, 0, 12), x.seen(0, 3, 0, 0, -1),
                 x.seen(LEAST, 1, 0, 0, 0), x.seen(0, MOST, 0, 0, 0));
         C.due("12: to ask makes no form", x.count(3), 1);
+    }
+
+    /** Forms of one object are kept apart: all short rows, then some hundred rows of any length. */
+    private static void promise12Apart() {
+        PenLines x = new PenLines();
+        for (int k = 0; k < 156; k++) {
+            x.form(3, k < 12 ? 1 : 2, k < 12 ? k : (k - 12) / 12, k % 12, 0, 1 + k % 99);
+        }
+        C.due("12: as many as were told", x.count(3), 156);
+        for (int k = 0; k < 156; k++) {
+            C.due("12: short row " + k, x.seen(3, k < 12 ? 1 : 2, k < 12 ? k : (k - 12) / 12, k % 12, 0), 1 + k % 99);
+        }
+        x = new PenLines();
+        for (int k = 0; k < 250; k++) {
+            x.form(k % 4, k % 3 + 1, k / 3 % 12, k / 36 % 12, k % 7 + k / 144, 1 + k % 97);
+        }
+        for (int k = 249; k >= 0; k--) {
+            int due = 0;
+            for (int other = 0; other < 250; other++) {
+                boolean same = k % 4 == other % 4 && k % 3 == other % 3 && k / 3 % 12 == other / 3 % 12
+                        && (k % 3 < 1 || k / 36 % 12 == other / 36 % 12)
+                        && (k % 3 < 2 || k % 7 + k / 144 == other % 7 + other / 144);
+                due += same ? 1 + other % 97 : 0;
+            }
+            C.due("12: row " + k, x.seen(k % 4, k % 3 + 1, k / 3 % 12, k / 36 % 12, k % 7 + k / 144), due);
+        }
     }
 
     private static void promise13() {
