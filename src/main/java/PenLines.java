@@ -16,6 +16,8 @@ public final class PenLines {
     private static final int WORD_LETTERS = 12, LIST_WORDS = 30;
 
     private static final int READ_PIECES = 14, TOLD = 5, SURE_BY = 4, NO_COST = -1;
+    // Above whatever a reading can cost.
+    private static final int NEVER = 1000000;
     private static final int LETTER_COST = 12, PAIR_COST = 6, DOT_MISSING = 5, DOT_TOO_MANY = 4;
 
     private static final int INK = 0, READ = 1, SURE = 2, LISTED = 3;
@@ -904,7 +906,9 @@ public final class PenLines {
                 for (int saved = 0; saved <= toSave; saved++) {
                     int from = heap(at + row, saved, next);
                     int to = heap(at, Math.min(toSave, saved + row - 1), letter);
-                    for (int k = from * TOLD; k < from * TOLD + held[from]; k++) {
+                    int end = from * TOLD + held[from];
+                    // The rests stand by cost: behind one that is too dear all others are, too.
+                    for (int k = from * TOLD; k < end && withPair + costs[k] <= dearest(to); k++) {
                         // A rest of as many letters as a word has can have none ahead of it.
                         if (letterAt(rests[k], WORD_LETTERS - 1) < 0) {
                             offer(to, withPair + costs[k], wordWith(rests[k] >>> 5, 0, letter));
@@ -912,6 +916,11 @@ public final class PenLines {
                     }
                 }
             }
+        }
+
+        /** What a rest may cost to come among the first ones of a heap. */
+        private int dearest(int heap) {
+            return held[heap] < TOLD ? NEVER : costs[heap * TOLD + TOLD - 1];
         }
 
         private void gatherWhole() {
@@ -985,7 +994,6 @@ public final class PenLines {
     /** One word on one ink, by THE LIST's rule. */
     private static final class Spelling {
         private static final int ENDS = READ_PIECES + 1;
-        private static final int NEVER = 1000000;
 
         // The least cost of the letters from one on, by the pieces from one on.
         private final int[] least = new int[(WORD_LETTERS + 1) * ENDS];
