@@ -30,10 +30,15 @@ final class Checks {
     /** Makes THE LINE of these x, shape, x, shape and so on, by SHEET 7: what line() answered. */
     static int write(PenLines x, int... items) {
         x.sheet(7, 2, items.length);
-        for (int k = 0; k < items.length; k++) {
-            x.set(7, k, items[k]);
-        }
+        fill(x, 7, items);
         return x.line(7, 0, items.length / 2);
+    }
+
+    /** Items of a SHEET, from 0 on. */
+    static void fill(PenLines x, int sheet, int... items) {
+        for (int k = 0; k < items.length; k++) {
+            x.set(sheet, k, items[k]);
+        }
     }
 
     /** Pieces of these shapes, five apart from 0 on. */

@@ -127,33 +127,33 @@ public final class InkPromises {
     private static void dotsBelong() {
         PenLines x = new PenLines();
         Checks.write(x, 100, 1, 110, 1, 95, DOT, 115, DOT, 94, DOT, 116, DOT);
-        C.due("ink: five to both sides", x.ink(0, 2), 2);
-        C.due("ink: the left one", x.piece(0, 0, 2), 1);
-        C.due("ink: the right one", x.piece(0, 1, 2), 1);
-        C.due("ink: six is loose", x.loose(), 2);
+        C.due("8: five to both sides", x.ink(0, 2), 2);
+        C.due("9: the left one", x.piece(0, 0, 2), 1);
+        C.due("9: the right one", x.piece(0, 1, 2), 1);
+        C.due("10: six is loose", x.loose(), 2);
         Checks.write(x, 100, 1, 200, 1, 120, 2, 195, DOT);
-        C.due("ink: parted, and back", x.count(1), 2);
-        C.due("ink: from the least x, which is not the first", x.ink(1, 2), 1);
+        C.due("8: parted, and back", x.count(1), 2);
+        C.due("8: from the least x, which is not the first", x.ink(1, 2), 1);
         Checks.write(x, 150, 1, 200, 1, 100, 1, 95, DOT, 205, DOT, 94, DOT, 206, DOT);
-        C.due("ink: parted in two", x.count(1), 2);
-        C.due("ink: from the least to the greatest, in any order", x.ink(1, 2), 2);
+        C.due("8: parted in two", x.count(1), 2);
+        C.due("8: from the least to the greatest, in any order", x.ink(1, 2), 2);
         Checks.write(x, 0, 1, 40, 1, 0, 1, 38, DOT, 3, DOT, 22, DOT);
-        C.due("ink: the first ink of several", x.ink(0, 2), 1);
-        C.due("ink: the second one has what is left", x.ink(1, 2), 2);
-        C.due("ink: at 22 the first piece is nearest", x.piece(1, 0, 2), 2);
+        C.due("8: the first ink of several", x.ink(0, 2), 1);
+        C.due("8: the second one has what is left", x.ink(1, 2), 2);
+        C.due("9: at 22 the first piece is nearest", x.piece(1, 0, 2), 2);
         Checks.write(x, 10, 1, 20, 1, 30, 1, 15, DOT, 25, DOT, 26, DOT, 20, DOT);
-        C.due("ink: of several as near the first", x.piece(0, 0, 2), 1);
-        C.due("ink: so the second", x.piece(0, 1, 2), 2);
-        C.due("ink: the nearest", x.piece(0, 2, 2), 1);
+        C.due("9: of several as near the first", x.piece(0, 0, 2), 1);
+        C.due("9: so the second", x.piece(0, 1, 2), 2);
+        C.due("9: the nearest", x.piece(0, 2, 2), 1);
         Checks.write(x, 10, 1, 20, 1, 10, 2, 11, DOT);
-        C.due("ink: of the same x the first", x.piece(0, 0, 2), 1);
-        C.due("ink: not the later", x.piece(0, 2, 2), 0);
+        C.due("9: of the same x the first", x.piece(0, 0, 2), 1);
+        C.due("9: not the later", x.piece(0, 2, 2), 0);
         x.gap(1);
         Checks.write(x, 10, 1, 12, 1, 12, DOT);
-        C.due("ink: the first ink, though a piece of the next is nearer", x.piece(0, 0, 2), 1);
-        C.due("ink: so the next has none", x.ink(1, 2), 0);
+        C.due("9: the first ink, though a piece of the next is nearer", x.piece(0, 0, 2), 1);
+        C.due("8: so the next has none", x.ink(1, 2), 0);
         Checks.write(x, 12, DOT, 10, 1);
-        C.due("ink: a dot may come ahead of its ink", x.piece(0, 0, 2), 1);
+        C.due("9: a dot may come ahead of its ink", x.piece(0, 0, 2), 1);
     }
 
     private static void promise10() {

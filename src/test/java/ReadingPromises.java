@@ -122,7 +122,7 @@ public final class ReadingPromises {
             PenLines x = new PenLines();
             Checks.writeShapes(x, 7);
             x.form(25, 1, 7, 0, 0, count[k]);
-            C.opens("cost by count " + count[k], x, 0, cost[k] + " z");
+            C.opens("18: cost by count " + count[k], x, 0, cost[k] + " z");
         }
     }
 
@@ -135,7 +135,7 @@ public final class ReadingPromises {
             x.form(25, 1, 7, 0, 0, 99);
             x.pair(25, 24, 99);
             x.pair(25, 25, count[k]);
-            C.opens("cost by pairs " + count[k], x, 0, 2 * cost[k] + " zzz");
+            C.opens("18: cost by pairs " + count[k], x, 0, 2 * cost[k] + " zzz");
         }
     }
 
@@ -147,30 +147,30 @@ public final class ReadingPromises {
         x.form(10, 1, 0, 0, 0, 99);
         x.form(7, 1, 0, 0, 0, 99);
         Checks.write(x, 0, 0);
-        C.opens("cost without a dot", x, 0, "0 a", "0 h", "0 k", "5 i", "5 j");
+        C.opens("18: cost without a dot", x, 0, "0 a", "0 h", "0 k", "5 i", "5 j");
         Checks.write(x, 0, 0, 0, DOT);
-        C.opens("cost with a dot", x, 0, "0 i", "0 j", "4 a", "4 h", "4 k");
+        C.opens("18: cost with a dot", x, 0, "0 i", "0 j", "4 a", "4 h", "4 k");
         Checks.write(x, 0, 0, 0, DOT, 5, DOT);
-        C.opens("cost with two dots", x, 0, "0 i", "0 j", "4 a", "4 h", "4 k");
+        C.opens("18: cost with two dots", x, 0, "0 i", "0 j", "4 a", "4 h", "4 k");
         Checks.write(x, 0, 0, 6, DOT);
-        C.opens("cost with a loose dot", x, 0, "0 a", "0 h", "0 k", "5 i", "5 j");
+        C.opens("18: cost with a loose dot", x, 0, "0 a", "0 h", "0 k", "5 i", "5 j");
         x = new PenLines();
         x.form(A, 3, 0, 0, 0, 99);
         x.form(I, 3, 0, 0, 0, 99);
         Checks.write(x, 0, 0, 10, 0, 20, 0, 20, DOT, 0, DOT);
-        C.opens("cost of a row with dots on two of its pieces", x, 0, "0 i", "4 a");
+        C.opens("18: cost of a row with dots on two of its pieces", x, 0, "0 i", "4 a");
         Checks.write(x, 0, 0, 10, 0, 20, 0);
-        C.opens("cost of a row with none", x, 0, "0 a", "5 i");
+        C.opens("18: cost of a row with none", x, 0, "0 a", "5 i");
         Checks.write(x, 0, 0, 10, 0, 20, 0, 10, DOT);
-        C.opens("cost of a row with a dot in the middle", x, 0, "0 i", "4 a");
+        C.opens("18: cost of a row with a dot in the middle", x, 0, "0 i", "4 a");
         x.form(A, 1, 0, 0, 0, 99);
         x.form(I, 1, 0, 0, 0, 99);
         x.pair(A, I, 99);
         x.pair(I, A, 99);
-        C.opens("cost of rows by their own dots", x, 0, "0 aia", "0 i", "4 a", "11 aii", "11 iia");
+        C.opens("18: cost of rows by their own dots", x, 0, "0 aia", "0 i", "4 a", "11 aii", "11 iia");
         Checks.put(x, I);
         Checks.put(x, A);
-        C.due("cost by the list has dots, too", x.listed(0, 0, 1) * 10 + x.listed(0, 1, 1), 4);
+        C.due("17: cost by the list has dots, too", x.listed(0, 0, 1) * 10 + x.listed(0, 1, 1), 4);
     }
 
     private static void leastCosts() {
@@ -180,13 +180,13 @@ public final class ReadingPromises {
         x.form(A, 2, 0, 0, 0, 99);
         x.form(B, 1, 1, 0, 0, 1);
         x.form(B, 2, 0, 1, 0, 2);
-        C.opens("a row of letters is told once, at its least cost", x, 0, "12 ab", "30 aab");
+        C.opens("18: a row of letters is told once, at its least cost", x, 0, "12 ab", "30 aab");
         Checks.put(x, A, B);
-        C.due("by the list, too", x.listed(0, 0, 1), 6);
+        C.due("17: by the list, too", x.listed(0, 0, 1), 6);
         x.form(B, 2, 0, 1, 0, 97);
         x.form(A, 1, 0, 0, 0, 98);
-        C.opens("another parting is the least now", x, 0, "6 ab", "18 aab");
-        C.due("and by the list", x.listed(0, 0, 1), 0);
+        C.opens("18: another parting is the least now", x, 0, "6 ab", "18 aab");
+        C.due("17: and by the list", x.listed(0, 0, 1), 0);
     }
 
     private static void orderOfOpenReadings() {
@@ -196,17 +196,17 @@ public final class ReadingPromises {
         x.form(B, 1, 0, 0, 0, 12);
         x.form(A, 2, 0, 0, 0, 12);
         x.pair(A, B, 6);
-        C.opens("the beginning of another goes ahead of it", x, 0, "0 a", "0 ab", "6 aa", "6 ba", "6 bb");
+        C.opens("18: the beginning of another goes ahead of it", x, 0, "0 a", "0 ab", "6 aa", "6 ba", "6 bb");
         x.form(25, 2, 0, 0, 0, 12);
-        C.opens("only five are told", x, 0, "0 a", "0 ab", "0 z", "6 aa", "6 ba");
+        C.opens("18: only five are told", x, 0, "0 a", "0 ab", "0 z", "6 aa", "6 ba");
         x.form(25, 3, 0, 0, 0, 99);
         Checks.writeShapes(x, 0, 0, 0);
-        C.opens("of three pieces", x, 0, "0 ab", "0 z", "6 aa", "6 aab", "6 aba");
+        C.opens("18: of three pieces", x, 0, "0 ab", "0 z", "6 aa", "6 aab", "6 aba");
         x.pair(A, 25, 99);
         x.pair(25, A, 99);
         x.pair(25, B, 99);
         x.pair(B, 25, 99);
-        C.opens("the lesser letter goes ahead, not the shorter row", x, 0, "0 ab", "0 az", "0 bz", "0 z", "0 za");
+        C.opens("18: the lesser letter goes ahead, not the shorter row", x, 0, "0 ab", "0 az", "0 bz", "0 z", "0 za");
     }
 
     private static void lengths() {
@@ -215,8 +215,8 @@ public final class ReadingPromises {
         int[] pieces = new int[15];
         for (int n = 1; n <= 15; n++) {
             Checks.writeShapes(x, java.util.Arrays.copyOf(pieces, n));
-            C.due("letters of " + n + " pieces", x.open(0, 0, -2), n <= 12 ? n : NONE);
-            C.due("cost of " + n + " pieces", x.open(0, 0, -1), n <= 12 ? 12 * n - 6 : NONE);
+            C.due("18: letters of " + n + " pieces", x.open(0, 0, -2), n <= 12 ? n : NONE);
+            C.due("18: cost of " + n + " pieces", x.open(0, 0, -1), n <= 12 ? 12 * n - 6 : NONE);
         }
         Checks.spell(x, A, A, A, A, A, A, A, A, A, A, A, A);
         x.list();
@@ -231,8 +231,8 @@ public final class ReadingPromises {
         x.form(A, 3, 0, 0, 0, 1);
         Checks.writeShapes(x, new int[15]);
         C.due("15 pieces have no readings by the list", x.listed(0, 0, 1), NONE);
-        C.due("nor open ones", x.open(0, 0, -1), NONE);
-        C.due("nor are they found", x.letter(A) + x.find(0), 1 + NONE);
+        C.due("18: nor open ones", x.open(0, 0, -1), NONE);
+        C.due("19: nor are they found", x.letter(A) + x.find(0), 1 + NONE);
     }
 
     private static void thirteenPieces() {
@@ -276,7 +276,7 @@ public final class ReadingPromises {
                 Checks.writeShapes(x, others);
                 for (int i = 0; i < 5; i++) {
                     for (int k = 0; k < Math.max(0, x.open(0, i, -2)); k++) {
-                        C.due("then " + n + " others", x.open(0, i, k), 4);
+                        C.due("18: then " + n + " others", x.open(0, i, k), 4);
                     }
                 }
             }
