@@ -40,11 +40,11 @@ public final class Unchanged {
         lay(x, 0, 0, 6);
         lay(x, 1, 1, 8);
         lay(x, 4, 2, 4);
-        x.sheet(3, 2, 0);
+        x.sheet(6, 2, 0);
         x.sheet(5, 2, 4);
         Checks.fill(x, 5, 2001, 0, 0, 13);
-        x.sheet(6, 1, 6);
-        Checks.fill(x, 6, 50, 5, 60, 6, 70, 13);
+        x.sheet(3, 1, 6);
+        Checks.fill(x, 3, 50, 5, 60, 6, 70, 13);
         int[] items = {0, 0, 10, 1, 9, DOT, 100, 0, 200, 2, 260, DOT};
         x.sheet(2, 1, 80);
         Checks.fill(x, 2, items);
@@ -83,7 +83,10 @@ public final class Unchanged {
 
     /** Thirty words, twelve letters in THE WORD, fifty teachings. */
     private static void full(PenLines x) {
-        Checks.write(x, 0, 0, 100, 1, 105, 1);
+        Checks.write(x, 0, 0, 100, 1, 105, 1, 50, DOT);
+        x.drop(7);
+        lay(x, 0, 0, 4);
+        x.gap(29);
         x.form(A, 1, 0, 0, 0, 1);
         x.pair(A, B, 1);
         for (int k = 0; k < 50; k++) {
@@ -104,6 +107,12 @@ public final class Unchanged {
         full(x);
         x.wipe();
         Checks.spell(x, A);
+    }
+
+    private static void usedAndUntaught(PenLines x) {
+        used(x);
+        x.unteach();
+        x.unteach();
     }
 
     private static void fresh(PenLines x) {
@@ -146,46 +155,61 @@ public final class Unchanged {
         C.due(call + ": first answer behind it that is another one", k, want.size());
     }
 
-    /** All that an object holds but status(); much of it is gone then. With what is done ahead, some 500 calls at most. */
+    /**
+     * All that an object holds but status(); much of it is gone then. With what is done ahead, some 500 calls at most.
+     * What is never refused is asked first, lest a refusal here hides what the one ahead has done.
+     */
     private static List<Integer> held(PenLines x) {
         List<Integer> all = new ArrayList<>();
+        all.add(x.loose());
         for (int k = 0; k < 8; k++) {
-            all.add(x.trace(k));
             all.add(x.count(k));
         }
-        all.add(x.loose());
-        inksHeld(x, all);
+        all.add(x.gap(29));
+        for (int k = 0; k < 8 && (k == 0 || all.get(all.size() - 1) != NONE); k++) {
+            all.add(x.trace(k));
+        }
+        all.add(x.count(6) == 0 ? NONE : x.find(0));
+        for (int ink = 0; ink < x.count(1); ink++) {
+            inkHeld(x, ink, all);
+        }
         wordHeld(x, all);
-        all.add(x.gap(30));
-        all.add(x.count(1));
         countsHeld(x, all);
         for (int sheet = 0; sheet < 8; sheet++) {
-            sheetHeld(x, sheet, all);
+            itemsHeld(x, sheet, all);
+        }
+        for (int sheet = 0; sheet < 8; sheet++) {
+            all.add(x.set(sheet, 0, 0x7654fedc));
+            all.add(x.drop(sheet));
         }
         return all;
     }
 
-    private static void inksHeld(PenLines x, List<Integer> all) {
-        for (int ink = 0; ink < INKS; ink++) {
-            all.add(x.kind(ink));
-            all.add(x.ink(ink, 0));
-            all.add(x.ink(ink, 2));
-            for (int k = 0; k < 2; k++) {
-                all.add(x.piece(ink, k, 0));
-                all.add(x.piece(ink, k, 1));
-                all.add(x.piece(ink, k, 2));
-            }
-            for (int i = 0; i < 3; i++) {
-                all.add(x.open(ink, i, -1));
-                all.add(x.open(ink, i, 0));
-                all.add(x.listed(ink, i, 0));
-                all.add(x.listed(ink, i, 1));
-            }
+    private static void inkHeld(PenLines x, int ink, List<Integer> all) {
+        int pieces = x.ink(ink, 0);
+        all.add(pieces);
+        all.add(x.ink(ink, 2));
+        all.add(x.kind(ink));
+        for (int k = 0; k < Math.min(2, pieces); k++) {
+            all.add(x.piece(ink, k, 0));
+            all.add(x.piece(ink, k, 1));
+            all.add(x.piece(ink, k, 2));
+        }
+        int cost = 0;
+        for (int i = 0; i < 5 && cost != NONE; i++) {
+            cost = x.open(ink, i, -1);
+            all.add(cost);
+            all.add(x.open(ink, i, 0));
+        }
+        int place = 0;
+        for (int i = 0; i < 5 && place != NONE; i++) {
+            place = x.listed(ink, i, 0);
+            all.add(place);
+            all.add(x.listed(ink, i, 1));
         }
     }
 
     private static void wordHeld(PenLines x, List<Integer> all) {
-        all.add(x.find(0));
         all.add(x.list());
         all.add(x.listed(0, 0, 0));
         all.add(x.wipe());
@@ -194,8 +218,8 @@ public final class Unchanged {
     private static void countsHeld(PenLines x, List<Integer> all) {
         int left = 0;
         while (left != NONE) {
-            all.add(x.seen(A, 1, 0, 0, 0));
-            if (left < 3) {
+            if (left < 3 || left == 49) {
+                all.add(x.seen(A, 1, 0, 0, 0));
                 all.add(x.seen(B, 1, 1, 0, 0));
                 all.add(x.seen(A, 2, 0, 1, 0));
                 all.add(x.seen(D, 1, 1, 0, 0));
@@ -210,13 +234,15 @@ public final class Unchanged {
         all.add(x.pair(A, A, 1));
     }
 
-    private static void sheetHeld(PenLines x, int sheet, List<Integer> all) {
-        for (int i = 0; i < 4; i++) {
-            all.add(x.line(sheet, i, 1));
-            all.add(x.piece(0, 0, 0));
+    private static void itemsHeld(PenLines x, int sheet, List<Integer> all) {
+        for (int i = 0; i < 3; i++) {
+            int inks = x.line(sheet, i, 1);
+            all.add(inks);
+            if (inks == 1) {
+                all.add(x.piece(0, 0, 0));
+                all.add(x.piece(0, 0, 1));
+            }
         }
-        all.add(x.set(sheet, 0, 0x7654fedc));
-        all.add(x.drop(sheet));
     }
 
     private static void sheets() {
@@ -234,7 +260,7 @@ public final class Unchanged {
         refused("3: missing", NULL, x -> x.set(7, 0, 1));
         refused("3: place below 0", PLACE, x -> x.set(0, -1, 1));
         refused("3: place behind the end", PLACE, x -> x.set(0, 6, 1));
-        refused("3: no place", PLACE, x -> x.set(3, 0, 1));
+        refused("3: no place", PLACE, x -> x.set(6, 0, 1));
         refused("4: a below 0", BAD, x -> x.copy(-1, 0, 0, 0, 1));
         refused("4: b 8", BAD, x -> x.copy(0, 0, 8, 0, 1));
         refused("4: a missing", NULL, x -> x.copy(7, 0, 0, 0, 1));
@@ -263,8 +289,8 @@ public final class Unchanged {
         refused("6: more than there are", PLACE, x -> x.line(1, 0, 5));
         refused("6: x above 2000", BAD, x -> x.line(5, 0, 1));
         refused("6: shape 13", BAD, x -> x.line(5, 2, 1));
-        refused("6: shape 13 behind pieces that are as told", BAD, x -> x.line(6, 0, 3));
-        refused("6: beyond the end, and one is not as told", PLACE, x -> x.line(6, 0, 4));
+        refused("6: shape 13 behind pieces that are as told", BAD, x -> x.line(3, 0, 3));
+        refused("6: beyond the end, and one is not as told", PLACE, x -> x.line(3, 0, 4));
         refused("7: no gap", BAD, x -> x.gap(0));
         refused("7: gap 101", BAD, x -> x.gap(101));
         refused("7: gap of an empty line", Unchanged::fresh, BAD, x -> x.gap(LEAST));
@@ -344,6 +370,7 @@ public final class Unchanged {
         refused("20: ink behind the last, and full", Unchanged::fullWithShortWord, BAD, x -> x.teach(2));
         refused("20: no reading spells it, and full", Unchanged::full, STATE, x -> x.teach(0));
         refused("21: none", Unchanged::fresh, NONE, x -> x.unteach());
+        refused("21: none are left", Unchanged::usedAndUntaught, NONE, x -> x.unteach());
     }
 
     private static void kindsAndAsks() {
