@@ -221,16 +221,16 @@ public final class ReadingPromises {
         Checks.spell(x, A, A, A, A, A, A, A, A, A, A, A, A);
         x.list();
         Checks.writeShapes(x, new int[12]);
-        C.due("12 letters by the list", x.listed(0, 0, 1), 72);
+        C.due("17: 12 letters by the list", x.listed(0, 0, 1), 72);
         Checks.writeShapes(x, new int[13]);
-        C.due("13 pieces", x.listed(0, 0, 1), NONE);
+        C.due("17: 13 pieces", x.listed(0, 0, 1), NONE);
         x.form(A, 2, 0, 0, 0, 1);
-        C.due("13 pieces, 12 rows", x.listed(0, 0, 1), 72);
+        C.due("17: 13 pieces, 12 rows", x.listed(0, 0, 1), 72);
         Checks.writeShapes(x, new int[14]);
-        C.due("14 pieces, 12 rows", x.listed(0, 0, 1), 72);
+        C.due("17: 14 pieces, 12 rows", x.listed(0, 0, 1), 72);
         x.form(A, 3, 0, 0, 0, 1);
         Checks.writeShapes(x, new int[15]);
-        C.due("15 pieces have no readings by the list", x.listed(0, 0, 1), NONE);
+        C.due("17: 15 pieces have no readings by the list", x.listed(0, 0, 1), NONE);
         C.due("18: nor open ones", x.open(0, 0, -1), NONE);
         C.due("19: nor are they found", x.letter(A) + x.find(0), 1 + NONE);
     }
@@ -241,9 +241,9 @@ public final class ReadingPromises {
         x.pair(A, A, 6);
         x.form(B, 2, 0, 0, 0, 1);
         Checks.writeShapes(x, new int[12]);
-        C.opens("12 pieces", x, 0, "0 aaaaaaaaaaaa", "12 aaaaaaaaaab", "12 baaaaaaaaaa", "18 aaaaaaaaaba", "18 aaaaaaaabaa");
+        C.opens("18: 12 pieces", x, 0, "0 aaaaaaaaaaaa", "12 aaaaaaaaaab", "12 baaaaaaaaaa", "18 aaaaaaaaaba", "18 aaaaaaaabaa");
         Checks.writeShapes(x, new int[13]);
-        C.opens("13 pieces: 13 letters are no reading", x, 0, "12 aaaaaaaaaaab", "12 baaaaaaaaaaa", "18 aaaaaaaaaaba",
+        C.opens("18: 13 pieces: 13 letters are no reading", x, 0, "12 aaaaaaaaaaab", "12 baaaaaaaaaaa", "18 aaaaaaaaaaba",
                 "18 aaaaaaaaabaa", "18 aaaaaaaabaaa");
     }
 
@@ -253,10 +253,10 @@ public final class ReadingPromises {
         x.pair(A, A, 6);
         x.form(B, 2, 0, 0, 0, 1);
         Checks.writeShapes(x, new int[14]);
-        C.opens("14 pieces: at least two rows of two", x, 0, "24 aaaaaaaaaabb", "24 baaaaaaaaaab", "24 bbaaaaaaaaaa",
+        C.opens("18: 14 pieces: at least two rows of two", x, 0, "24 aaaaaaaaaabb", "24 baaaaaaaaaab", "24 bbaaaaaaaaaa",
                 "30 aaaaaaaaabab", "30 aaaaaaaaabba");
         x.form(2, 3, 0, 0, 0, 1);
-        C.opens("14 pieces: or a row of three", x, 0, "12 aaaaaaaaaaac", "12 caaaaaaaaaaa", "18 aaaaaaaaaaca",
+        C.opens("18: 14 pieces: or a row of three", x, 0, "12 aaaaaaaaaaac", "12 caaaaaaaaaaa", "18 aaaaaaaaaaca",
                 "18 aaaaaaaaacaa", "18 aaaaaaaacaaa");
     }
 
@@ -270,7 +270,7 @@ public final class ReadingPromises {
                 x.form(4, 1, 1, 0, 0, 1);
                 x.form(4, 3, 1, 1, 1, 1);
                 Checks.writeShapes(x, new int[14]);
-                C.due("14 pieces of " + letter, x.open(0, 0, 0), letter);
+                C.due("18: 14 pieces of " + letter, x.open(0, 0, 0), letter);
                 int[] others = new int[n];
                 java.util.Arrays.fill(others, 1);
                 Checks.writeShapes(x, others);
