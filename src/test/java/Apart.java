@@ -19,6 +19,7 @@ public final class Apart {
         promise16();
         promise17And18();
         promise18Dots();
+        promise18DotsFar();
         promise19();
         promise20();
         promise20Pairs();
@@ -218,6 +219,10 @@ public final class Apart {
         C.due("9: the second ink on both sides of the first", Checks.write(x, 50, 0, 100, 1, 0, 2, 60, DOT, 40, DOT, 50, DOT), 2);
         dotsOn("9: between", x, 0, 1);
         dotsOn("9: on both sides", x, 1, 1, 1);
+        C.due("9: the same of three pieces each", Checks.write(x, 40, 9, 50, 11, 60, 9, 100, 7, 0, 0, 20, 5, 70, DOT, 30, DOT,
+                50, DOT, 97, DOT, 66, DOT, 65, DOT, 34, DOT, 3, DOT), 2);
+        dotsOn("9: three between", x, 0, 0, 1, 1);
+        dotsOn("9: three on both sides", x, 1, 3, 1, 2);
         int[] items = new int[2 * 40];
         for (int k = 0; k < 37; k++) {
             items[2 * k] = k % 2 == 0 ? 0 : 2;
@@ -379,6 +384,29 @@ public final class Apart {
             C.due("18: its dots", x.ink(0, 2), 4);
             C.due("18: it is read", x.open(0, 0, -1), pieces <= 14 ? 4 : NONE);
             C.due("22: its kind", x.kind(0), pieces <= 14 ? 1 : 0);
+        }
+    }
+
+    /** The dot of a row is that of its own pieces, be they far behind in the line, and GAP small. */
+    private static void promise18DotsFar() {
+        PenLines x = new PenLines();
+        x.form(A, 1, 0, 0, 0, 12);
+        x.form(I, 1, 0, 0, 0, 12);
+        x.form(E, 3, 0, 0, 0, 12);
+        x.pair(A, I, 6);
+        x.pair(I, A, 6);
+        x.pair(A, A, 6);
+        x.gap(1);
+        for (int at = 0; at < 8; at++) {
+            Checks.write(x, 200, 1, 0, 0, 1, 0, 2, 0, 3, 0, 4, 0, 5, 0, 6, 0, 7, 0, at, DOT);
+            C.due("8: one ink, as it does not go up by more than 1", x.count(1), 1);
+            Checks.write(x, 100, 1, 102, 0, 103, 0, 104, 0, 105, 0, 106, 0, 107, 0, 108, 0, 109, 0, 102 + at, DOT, 100, DOT);
+            dotsOn("9: the first ink, which reaches to 105", x, 0, at <= 3 ? 2 : 1);
+            StringBuilder due = new StringBuilder("0 aaaaaaaa");
+            if (at > 3) {
+                due.setCharAt(2 + at, 'i');
+            }
+            C.due("18: eight letters, dot " + at, Checks.opened(x, 1, 0).equals(due.toString()) ? 1 : 0, 1);
         }
     }
 

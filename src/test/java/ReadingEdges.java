@@ -22,11 +22,15 @@ public final class ReadingEdges {
         promise18CostByPair();
         promise18Order();
         promise18FullHeaps();
+        promise18Many();
+        promise18Once();
+        promise18Behind();
         promise18Pieces();
         promise19();
         promise19Told();
         promise20();
         promise20Ties();
+        promise20Longest();
         promise20ByDots();
         promise20Most();
         promise20Fifty();
@@ -351,6 +355,85 @@ public final class ReadingEdges {
         C.opens("18: one in between by the long row", y, 0, "6 ad", "6 ae", "6 af", "6 ag", "10 az");
     }
 
+    /** Two letters of the same cost wherever they stand: the first five differ in their last letters alone. */
+    private static void promise18Many() {
+        int[][] twos = {{A, B}, {Z - 1, Z}, {D, Z}, {A, Z}, {H, K}};
+        for (int[] two : twos) {
+            for (int often = 1; often <= 12; often += 11) {
+                for (int n = 1; n <= 12; n++) {
+                    PenLines x = new PenLines();
+                    see(x, two[0], 0, often);
+                    see(x, two[1], 0, often);
+                    Checks.writeShapes(x, Arrays.copyOf(TWELVE, n));
+                    String[] due = new String[Math.min(5, 1 << n)];
+                    for (int i = 0; i < due.length; i++) {
+                        StringBuilder text = new StringBuilder().append(n * (often == 1 ? 12 : 6) - 6).append(' ');
+                        for (int k = n - 1; k >= 0; k--) {
+                            text.append((char) ('a' + two[i >> k & 1]));
+                        }
+                        due[i] = text.toString();
+                    }
+                    C.opens("18: letters " + two[0] + " and " + two[1] + ", " + n + " pieces", x, 0, due);
+                }
+            }
+        }
+    }
+
+    /** Told once, at its least COST, wherever among the others it stood by the parting that costs more. */
+    private static void promise18Once() {
+        int[] heads = {A, D, Z};
+        for (int head : heads) {
+            PenLines x = new PenLines();
+            Checks.writeShapes(x, 0, 1, 2);
+            x.form(head, 1, 0, 0, 0, 12);
+            x.form(A, 2, 1, 2, 0, 12);
+            x.form(B, 2, 1, 2, 0, 1);
+            x.form(E, 2, 1, 2, 0, 6);
+            String h = "" + (char) ('a' + head);
+            C.opens("18: by one parting", x, 0, "6 " + h + "a", "7 " + h + "e", "12 " + h + "b");
+            x.form(head, 2, 0, 1, 0, 12);
+            x.form(B, 1, 2, 0, 0, 6);
+            C.opens("18: once, and it goes ahead", x, 0, "6 " + h + "a", "7 " + h + "b", "7 " + h + "e");
+            x.form(B, 1, 2, 0, 0, 6);
+            C.opens("18: once, and further ahead", x, 0, "6 " + h + "a", "6 " + h + "b", "7 " + h + "e");
+            x.form(A, 1, 2, 0, 0, 1);
+            x.form(E, 1, 2, 0, 0, 1);
+            C.opens("18: once, at the cost that is less", x, 0, "6 " + h + "a", "6 " + h + "b", "7 " + h + "e");
+            x.pair(head, B, 6);
+            C.opens("18: once, and first", x, 0, "0 " + h + "b", "6 " + h + "a", "7 " + h + "e");
+        }
+    }
+
+    /** What comes by a longer row, or by a greater letter behind, may be the better one, or as good and lesser. */
+    private static void promise18Behind() {
+        int[] heads = {A, D, H, Z};
+        for (int head : heads) {
+            PenLines x = new PenLines();
+            String h = "" + (char) ('a' + head);
+            Checks.writeShapes(x, 0, 1, 2, 3, 4);
+            x.form(head, 1, 0, 0, 0, 12);
+            x.form(head, 2, 0, 1, 0, 12);
+            x.form(Z, 3, 1, 2, 3, 12);
+            x.form(E, 2, 2, 3, 0, 12);
+            see(x, B, 4, 12);
+            C.opens("18: as good, lesser by the longer row", x, 0, "12 " + h + "eb", "12 " + h + "zb");
+            x.pair(head, Z, 1);
+            C.opens("18: better by the greater letter", x, 0, "9 " + h + "zb", "12 " + h + "eb");
+            for (int letter = F; letter <= H; letter++) {
+                x.form(letter, 3, 1, 2, 3, 12);
+            }
+            C.opens("18: five by two rows", x, 0, "9 " + h + "zb", "12 " + h + "eb", "12 " + h + "fb", "12 " + h + "gb",
+                    "12 " + h + "hb");
+            see(x, D, 4, 12);
+            x.pair(Z, D, 6);
+            C.opens("18: better by the last letter", x, 0, "3 " + h + "zd", "9 " + h + "zb", "12 " + h + "eb",
+                    "12 " + h + "ed", "12 " + h + "fb");
+            x.pair(head, E, 6);
+            C.opens("18: better by the first pair of the longer row", x, 0, "3 " + h + "zd", "6 " + h + "eb",
+                    "6 " + h + "ed", "9 " + h + "zb", "12 " + h + "fb");
+        }
+    }
+
     private static void promise18Pieces() {
         for (int n = 1; n <= 16; n++) {
             PenLines x = new PenLines();
@@ -489,6 +572,32 @@ public final class ReadingEdges {
             C.due("20: a row of 2 from " + at, y.seen(B, 2, at, at + 1, 0), at == 0 || at == 2 ? 2 : 1);
         }
         C.due("20: four pairs", y.pair(B, B, 1), 5);
+    }
+
+    /** Where every row costs the same: the longest that leaves a piece for each letter behind it, from the first on. */
+    private static void promise20Longest() {
+        for (int pieces = 1; pieces <= 14; pieces++) {
+            for (int letters = 1; letters <= 12; letters++) {
+                PenLines x = new PenLines();
+                Checks.writeShapes(x, Arrays.copyOf(new int[14], pieces));
+                int[] due = {1, 1, 1};
+                int left = pieces;
+                for (int k = 0; k < letters; k++) {
+                    x.letter(A);
+                    int row = Math.max(1, Math.min(3, left - (letters - 1 - k)));
+                    due[row - 1]++;
+                    left -= row;
+                }
+                for (int row = 1; row <= 3; row++) {
+                    x.form(A, row, 0, 0, 0, 1);
+                }
+                String what = letters + " letters of " + pieces + " pieces";
+                C.due("20: " + what, x.teach(0), left == 0 ? letters : STATE);
+                if (left == 0) {
+                    rows(what, x, due);
+                }
+            }
+        }
     }
 
     /** By THE LIST's rule: dots cost there, too. */
